@@ -863,7 +863,7 @@ public final class BlinkMesh {
             for (int digits = 0; digits < MOST_DIGITS; digits++) {
                 int digit = current() - '0';
                 if (digit < 0 || digit > 9 || number == 0) {
-                    return number < least ? NOT_THERE : number;
+                    break;
                 }
                 int longer = digits == 0 ? digit : number * 10 + digit;
                 if (!begins(longer, least, greatest)) {

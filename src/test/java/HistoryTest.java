@@ -4,6 +4,7 @@ public final class HistoryTest {
 
     public static void main(String[] args) {
         undoOfEachAct();
+        counts();
         fourStates();
         snapshot();
         DUE.end();
@@ -51,6 +52,23 @@ public final class HistoryTest {
 
     private static boolean same(int[] one, int[] other) {
         return java.util.Arrays.equals(one, other);
+    }
+
+    private static void counts() {
+        BlinkMesh x = Due.mesh("99,98,90*70;ab,bc");
+        int[] before = told(x);
+        x.keep();
+        x.pass(1);
+        for (int what = 5; what <= 8; what++) {
+            DUE.is("count(" + what + ") grew", x.count(what) > 0 ? 1 : 0, 1);
+        }
+        int[] behind = told(x);
+        x.restore();
+        DUE.is("restore() takes what was counted back", same(before, told(x)) ? 1 : 0, 1);
+        x.undo();
+        DUE.is("undo() brings what was counted back", same(behind, told(x)) ? 1 : 0, 1);
+        x.undo();
+        DUE.is("undo() takes what was counted back", same(before, told(x)) ? 1 : 0, 1);
     }
 
     private static void fourStates() {

@@ -85,9 +85,15 @@ public final class LampsTest {
         DUE.is("a new lamp is not deaf", y.lamp(0, 3), 0);
         DUE.is("a new lamp has not blinked", y.lamp(0, 4), 0);
         DUE.is("a new lamp has no latest blink", y.lamp(0, 5), 0);
+        y.link(0, 1, true);
+        y.tune(1, 99, 100);
+        y.pass(1);
+        DUE.is("pushed once", y.lamp(0, 9), 1);
         y.turn(0, false);
         y.goAway(0);
         y.come(3, 70);
+        DUE.is("a new lamp was never pushed", y.lamp(0, 9), 0);
+        DUE.is("pushes so far stay", y.count(6), 1);
         DUE.is("a new lamp is on", y.lamp(0, 2), 1);
     }
 
@@ -278,6 +284,11 @@ public final class LampsTest {
         BlinkMesh round = Due.mesh("99,99,85,10;ac,bc,cd");
         DUE.is("pushed twice, then blinks", round.pass(1), 3);
         DUE.is("and pushes in its round", round.lamp(3, 0), 1210);
+        // Two lamps that one push of each makes ripe, and that push on in the next round.
+        BlinkMesh fork = Due.mesh("99,95,95,10,20;ab,ac,bd,ce");
+        DUE.is("one sets off two", fork.pass(1), 3);
+        DUE.is("the first pushes on", fork.lamp(3, 0), 1210);
+        DUE.is("the second pushes on", fork.lamp(4, 0), 2310);
         // A chain through all sixteen, each in a round of its own.
         BlinkMesh chain = new BlinkMesh();
         chain.set(1, 100);

@@ -45,6 +45,9 @@ public final class TextsTest {
         DUE.is("lamp(3, 6)", x.lamp(3, 6), 2);
         DUE.is("count(3)", x.count(3), 2);
         DUE.is("count(2)", x.count(2), 4);
+        BlinkMesh back = Due.mesh("1,2,3,4;ba,ca,da");
+        DUE.is("links told from the higher lamp", back.lamp(0, 6), 14);
+        DUE.is("lamp(2, 6)", back.lamp(2, 6), 1);
         BlinkMesh y = new BlinkMesh();
         y.set(0, 200);
         Due.read(y, "199");
@@ -67,6 +70,10 @@ public final class TextsTest {
         fault("5,a", 2);
         fault("5,00", 3);
         fault("5 ", 1);
+        fault("5:", 1);
+        fault("5/", 1);
+        fault("5,:", 2);
+        fault("5,/", 2);
         fault("5*", 2);
         fault("5*0", 2);
         fault("5*4", 2);
@@ -142,6 +149,15 @@ public final class TextsTest {
         x.clearText();
         DUE.is("a fault", x.readMesh(), -100);
         DUE.is("changes nothing", x.count(1), 3);
+        // A mesh that is read has no lamp of the one before.
+        BlinkMesh z = Due.mesh("1,2,3,4;cd,bd");
+        DUE.is("fewer lamps", Due.read(z, "5"), 1);
+        DUE.is("count(1)", z.count(1), 1);
+        DUE.is("count(2)", z.count(2), 1);
+        DUE.is("count(3)", z.count(3), 0);
+        DUE.is("count(4)", z.count(4), 1);
+        z.come(7, 100);
+        DUE.is("one that comes has no links", z.lamp(1, 6), 0);
         // A mesh that is read has no links of the one before.
         BlinkMesh y = Due.mesh("1,2;ab");
         Due.read(y, "1,2");

@@ -311,6 +311,8 @@ public final class ToldTest {
         x.turn(1, false);
         x.turn(2, false);
         DUE.is("no pieces", x.count(4), 0);
+        DUE.is("three pieces", Due.mesh("1,2,3,4,5,6,7;ac,ce,bd,fg").count(4), 3);
+        DUE.is("seven pieces", Due.mesh("1,2,3,4,5,6,7").count(4), 7);
         DUE.is("the most stays", x.count(8), 2);
     }
 
