@@ -105,9 +105,9 @@ public final class FaceTest {
         BlinkMesh x = Due.mesh("0,10,20,30;ab,bc");
         calls(x, 2);
         long before = threads.getThreadAllocatedBytes(self);
-        calls(x, 20);
+        calls(x, 15);
         long made = threads.getThreadAllocatedBytes(self) - before;
-        DUE.is("bytes made by 460 calls: " + made, made > 8192 ? 1 : 0, 0);
+        DUE.is("bytes made by 345 calls: " + made, made > 8192 ? 1 : 0, 0);
     }
 
     private static void calls(BlinkMesh x, int times) {

@@ -11,18 +11,17 @@ public final class HistoryTest {
     }
 
     private static void undoOfEachAct() {
-        BlinkMesh x = Due.mesh("99,98,10*70,5;ab,bc");
-        x.set(2, 7);
-        x.pass(2);
-        x.turn(3, false);
-        x.keep();
-        int[] before = told(x);
         for (int act = 0; act < 8; act++) {
+            BlinkMesh x = Due.mesh("99,98,10*70,5;ab,bc");
+            x.set(2, 7);
+            x.pass(2);
+            x.turn(3, false);
+            x.keep();
+            int[] before = told(x);
             DUE.is("act " + act, act(x, act) >= 0 ? 1 : 0, 1);
             DUE.is("act " + act + " changes something", same(before, told(x)) ? 1 : 0, act == 7 ? 1 : 0);
             DUE.is("undo of act " + act, x.undo(), 3);
             DUE.is("all is as before act " + act, same(before, told(x)) ? 1 : 0, 1);
-            x.keep();
         }
     }
 
@@ -39,12 +38,13 @@ public final class HistoryTest {
         }
     }
 
+    /** What is told of the state, with the lamps 0 to 4. */
     private static int[] told(BlinkMesh x) {
-        int[] answers = new int[12 + 160];
+        int[] answers = new int[12 + 50];
         for (int what = 0; what < 12; what++) {
             answers[what] = x.count(what);
         }
-        for (int at = 0; at < 160; at++) {
+        for (int at = 0; at < 50; at++) {
             answers[12 + at] = x.lamp(at / 10, at % 10);
         }
         return answers;

@@ -27,7 +27,7 @@ public final class RandomRunsTest {
         int call = 0;
         while (call < CALLS) {
             if (random.nextInt(12) == 0) {
-                call += readText();
+                call += readText(CALLS - call);
             } else if (random.nextInt(5) < 2) {
                 look();
                 call++;
@@ -128,8 +128,12 @@ public final class RandomRunsTest {
         }
     }
 
-    private int readText() {
+    /** Returns how many calls it made: none if there is no room for all of them. */
+    private int readText(int room) {
         String text = text();
+        if (text.length() + 2 > room) {
+            return 0;
+        }
         due("clearText()", mesh.clearText(), plain.clearText());
         for (int at = 0; at < text.length(); at++) {
             due("type(" + (int) text.charAt(at) + ")", mesh.type(text.charAt(at)), plain.type(text.charAt(at)));

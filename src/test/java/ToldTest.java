@@ -129,41 +129,9 @@ public final class ToldTest {
         BlinkMesh meet = Due.mesh("0*150,30*100");
         meet.set(0, 200);
         DUE.is("phases meet on their way", meet.togetherIn(), 60);
-        DUE.is("in 1999 ticks", meetingIn(1999).togetherIn(), 1999);
-        DUE.is("in 2000 ticks", meetingIn(2000).togetherIn(), 2000);
-        DUE.is("in 2001 ticks", meetingIn(2001).togetherIn(), BlinkMesh.NONE);
-    }
-
-    /** Two lamps of unlike rates whose phases meet first in so many ticks, beyond 2000 when they come. */
-    private static BlinkMesh meetingIn(int ticks) {
-        for (int rate = 51; rate <= 150; rate++) {
-            for (int phase = 0; phase < 200; phase++) {
-                int meeting = meeting(phase, rate);
-                if (meeting > ticks) {
-                    BlinkMesh x = new BlinkMesh();
-                    x.set(0, 200);
-                    x.set(1, 0);
-                    x.come(0, 50);
-                    x.come(phase, rate);
-                    x.pass(meeting - ticks);
-                    return x;
-                }
-            }
-        }
-        throw new IllegalStateException("no phases meet then");
-    }
-
-    private static int meeting(int phase, int rate) {
-        int one = 0;
-        int other = phase * 100;
-        for (int ticks = 0; ticks < 2900; ticks++) {
-            if (one == other) {
-                return ticks;
-            }
-            one = one + 50 >= 20000 ? 0 : one + 50;
-            other = other + rate >= 20000 ? 0 : other + rate;
-        }
-        return -1;
+        DUE.is("in 1999 ticks", Due.meetingIn(1999).togetherIn(), 1999);
+        DUE.is("in 2000 ticks", Due.meetingIn(2000).togetherIn(), 2000);
+        DUE.is("in 2001 ticks", Due.meetingIn(2001).togetherIn(), BlinkMesh.NONE);
     }
 
     private static void reason() {
