@@ -277,6 +277,11 @@ public final class HistoryBoundsTest {
             SAYS.due("restore() of sixteen", x.restore(), 16);
             SAYS.due("count(2)", x.count(2), 16);
             SAYS.due("restore() of what is so already", x.restore(), 16);
+            BlinkMesh out = Due.mesh("5,6");
+            out.turn(0, false);
+            out.keep();
+            SAYS.due("restore() of two, one of them out", out.restore(), 2);
+            SAYS.due("count(2)", out.count(2), 1);
         });
         SAYS.holds(14, NOTHING, () -> {
             Whole.isLeft(SAYS, BlinkMesh::new, "restore()", x -> x.restore(), NONE);

@@ -27,6 +27,7 @@ public final class LinkBoundsTest {
         bestLinkNone();
         bestLinkChoice();
         bestLinkTicks();
+        bestLinkSpread();
         countArguments();
         countLamps();
         countPieces();
@@ -112,6 +113,18 @@ public final class LinkBoundsTest {
             Whole.isLeft(SAYS, Whole::busy, "ifLinked(0, 4)", x -> x.ifLinked(0, 4), UNKNOWN);
             Whole.isLeft(SAYS, Whole::busy, "ifLinked(0, 0)", x -> x.ifLinked(0, 0), BAD_VALUE);
             Whole.isLeft(SAYS, () -> Due.mesh("5,6;ab"), "ifLinked(0, 1)", x -> x.ifLinked(0, 1), NONE);
+        });
+        SAYS.holds(21, "The whole mesh is together if there is a lamp that is on, and all lamps that are on agree.", () -> {
+            BlinkMesh x = Due.mesh("5,6,6,7;ab");
+            SAYS.due("ifLinked(0, 1), none agree", x.ifLinked(0, 1), NONE);
+            x.turn(3, false);
+            SAYS.due("ifLinked(0, 1), some agree", x.ifLinked(0, 1), NONE);
+            x.turn(0, false);
+            SAYS.due("ifLinked(0, 1), all that are on agree", x.ifLinked(0, 1), 0);
+            x.turn(1, false);
+            SAYS.due("ifLinked(0, 1), one is on", x.ifLinked(0, 1), 0);
+            x.turn(2, false);
+            SAYS.due("ifLinked(0, 1), none is on", x.ifLinked(0, 1), NONE);
         });
         SAYS.holds(21, ACT, () -> {
             Whole.isOnlyTold(SAYS, Whole::busy, "ifLinked(0, 1)", x -> x.ifLinked(0, 1));
@@ -258,6 +271,28 @@ public final class LinkBoundsTest {
         });
     }
 
+    private static void bestLinkSpread() {
+        SAYS.holds(23, "The distance of two phases is their difference, or what is left of 100 times the period beside it, if "
+            + "that is less.", () -> {
+                // With the period and the rate 100, all are behind 100 ticks where they are now.
+                int[][] apart = {{0, 49, 4900}, {0, 50, 5000}, {0, 51, 4900}, {0, 99, 100}, {7, 7, 0}};
+                for (int[] pair : apart) {
+                    BlinkMesh x = new BlinkMesh();
+                    x.set(1, 0);
+                    x.come(pair[0], 100);
+                    x.come(pair[1], 100);
+                    SAYS.due("bestLink(2) of " + pair[0] + " and " + pair[1], x.bestLink(2), pair[2]);
+                }
+                BlinkMesh out = new BlinkMesh();
+                out.set(1, 0);
+                out.come(10, 100);
+                out.come(20, 100);
+                out.come(60, 100);
+                out.turn(2, false);
+                SAYS.due("bestLink(2), the farthest is out", out.bestLink(2), 1000);
+            });
+    }
+
     private static void countArguments() {
         SAYS.holds(24, "Returns the number; BAD_VALUE.", () -> {
             int[] bad = {MIN, -1, 14, 15, MAX};
@@ -318,6 +353,17 @@ public final class LinkBoundsTest {
     }
 
     private static void countPieces() {
+        SAYS.holds(24, "A piece of the mesh is all lamps that are on and come to each other by links of lamps that are on.",
+            () -> {
+                BlinkMesh x = Due.mesh("1,2,3,4,5;ab,bc,cd");
+                SAYS.due("count(4), four by three links, and one", x.count(4), 2);
+                x.turn(1, false);
+                SAYS.due("count(4), past one that is out", x.count(4), 3);
+                x.turn(4, false);
+                SAYS.due("count(4), one that is out is none", x.count(4), 2);
+                x.link(0, 3, true);
+                SAYS.due("count(4), by another way", x.count(4), 1);
+            });
         SAYS.holds(24, "4 for pieces", () -> {
             SAYS.due("count(4), no lamps", new BlinkMesh().count(4), 0);
             SAYS.due("count(4), one", Due.mesh("5").count(4), 1);
@@ -375,6 +421,16 @@ public final class LinkBoundsTest {
             SAYS.due("count(7), three", x.count(7), 2);
             x.pass(1);
             SAYS.due("count(7), none", x.count(7), 2);
+        });
+        SAYS.holds(24, "Lamps blink together if they blink in the same tick, in whatever round.", () -> {
+            BlinkMesh x = Due.mesh("99,95,50;ab");
+            x.pass(1);
+            SAYS.due("count(7), each in a round of its own", x.count(7), 1);
+            SAYS.due("count(8), each in a round of its own", x.count(8), 2);
+            BlinkMesh rounds = Due.mesh("99,95,95,95,95;ab,ac,bd,ce");
+            rounds.pass(1);
+            SAYS.due("count(7), one, two and two in three rounds", rounds.count(7), 1);
+            SAYS.due("count(8), one, two and two in three rounds", rounds.count(8), 5);
         });
         SAYS.holds(24, "8 for the most that did so in a tick so far (0 as long as lamps blinked alone)", () -> {
             BlinkMesh x = Due.mesh("99,98,98,97,97,97,96,96");

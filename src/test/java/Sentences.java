@@ -32,7 +32,11 @@ final class Sentences {
             tellWrong("does not stand in the document");
         }
         int before = answers;
-        asks.run();
+        try {
+            asks.run();
+        } catch (RuntimeException e) {
+            tellWrong("ended with " + e);
+        }
         if (answers == before) {
             tellWrong("is not asked for");
         }

@@ -186,6 +186,10 @@ public final class TextBoundsTest {
             fault("1000", 3);
             fault("1.5", 1);
             fault("19a", 2);
+            fault("/", 0);
+            fault(":", 0);
+            fault("1/", 1);
+            fault("1:", 1);
         });
     }
 
@@ -205,6 +209,10 @@ public final class TextBoundsTest {
             fault("7**50", 2);
             fault("7*50*60", 4);
             fault("7*-50", 2);
+            fault("7*/", 2);
+            fault("7*:", 2);
+            fault("7*5/", 3);
+            fault("7*5:", 3);
             fault("*50", 0);
             fault("7,*50", 2);
         });
@@ -409,6 +417,10 @@ public final class TextBoundsTest {
                 SAYS.due("lamp(2, 0)", x.lamp(2, 0), UNKNOWN);
                 SAYS.due("come", x.come(5, 100), 2);
                 SAYS.due("lamp(2, 6)", x.lamp(2, 6), 0);
+                BlinkMesh fewer = Due.mesh("1,2,3,4;bc,bd,cd");
+                Due.read(fewer, "5");
+                SAYS.due("count(1), one lamp for four", fewer.count(1), 1);
+                SAYS.due("count(3), no link for three", fewer.count(3), 0);
             });
     }
 

@@ -294,7 +294,7 @@ public final class TickBoundsTest {
                 x.come(199, 100);
                 x.link(0, lamp, true);
             }
-            // Beyond the period, fifteen pushes would be beyond all numbers.
+            // Each of the fifteen would double it.
             SAYS.due("pass(1)", x.pass(1), 16);
             SAYS.due("lamp(0, 9)", x.lamp(0, 9), 15);
             SAYS.due("lamp(0, 0)", x.lamp(0, 0), 0);

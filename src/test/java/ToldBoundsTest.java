@@ -15,6 +15,10 @@ public final class ToldBoundsTest {
         + "the checks.";
     private static final String NOTHING = "A call that returns an error or NONE changes nothing.";
     private static final String NONE_LAST = "NONE is no error; it is returned only if no error applies.";
+    private static final String DISTANCE = "The distance of two phases is their difference, or what is left of 100 times "
+        + "the period beside it, if that is less.";
+    private static final String PIECE = "A piece of the mesh is all lamps that are on and come to each other by links of "
+        + "lamps that are on.";
     private static final String TOGETHER = "The whole mesh is together if there is a lamp that is on, and all lamps that "
         + "are on agree.";
 
@@ -100,6 +104,15 @@ public final class ToldBoundsTest {
             x.turn(0, false);
             SAYS.due("lamp(0, 0), out", x.lamp(0, 0), 351);
         });
+        SAYS.holds(15, "A lamp has a phase, told in hundredths (0 to 100 times the period, less 1)", () -> {
+            BlinkMesh x = Due.mesh("98*100,98*101,99*99");
+            x.pass(1);
+            SAYS.due("lamp(2, 0), the greatest", x.lamp(2, 0), 9999);
+            x.pass(1);
+            SAYS.due("lamp(0, 0), never 10000", x.lamp(0, 0), 0);
+            SAYS.due("lamp(1, 0), never 10002", x.lamp(1, 0), 0);
+            SAYS.due("lamp(2, 0), never 10098", x.lamp(2, 0), 0);
+        });
         SAYS.holds(15, "1 for its rate", () -> {
             SAYS.due("lamp(0, 1), the least", Due.mesh("7*50").lamp(0, 1), 50);
             SAYS.due("lamp(0, 1), the greatest", Due.mesh("7*150").lamp(0, 1), 150);
@@ -126,6 +139,14 @@ public final class ToldBoundsTest {
     }
 
     private static void lampBlinks() {
+        SAYS.holds(15, "ticks for which it is deaf still (0 at first)", () -> {
+            BlinkMesh x = Due.mesh("99,5");
+            SAYS.due("lamp(0, 3) of one that was read", x.lamp(0, 3), 0);
+            x.pass(1);
+            SAYS.due("lamp(1, 3) of one that has not blinked", x.lamp(1, 3), 0);
+            SAYS.due("come", x.come(5, 100), 2);
+            SAYS.due("lamp(2, 3) of one that came", x.lamp(2, 3), 0);
+        });
         SAYS.holds(15, "4 for its blinks so far", () -> {
             BlinkMesh x = Due.mesh("98,95;ab");
             x.pass(1);
@@ -190,25 +211,24 @@ public final class ToldBoundsTest {
             x.turn(2, false);
             SAYS.due("lamp(2, 7), out, linked with one that is on", x.lamp(2, 7), 0);
         });
-        SAYS.holds(15, "A piece of the mesh is all lamps that are on and come to each other by links of lamps that are on.",
-            () -> {
-                BlinkMesh x = Due.mesh("1,2,3,4,5,6;ab,bc,cd,ef");
-                SAYS.due("lamp(0, 7), by three links", x.lamp(0, 7), 15);
-                SAYS.due("lamp(3, 7), by three links", x.lamp(3, 7), 15);
-                SAYS.due("lamp(4, 7)", x.lamp(4, 7), 48);
-                x.turn(1, false);
-                SAYS.due("lamp(0, 7), past one that is out", x.lamp(0, 7), 1);
-                SAYS.due("lamp(2, 7), past one that is out", x.lamp(2, 7), 12);
-                x.link(0, 3, true);
-                SAYS.due("lamp(2, 7), by another way", x.lamp(2, 7), 13);
-                BlinkMesh longest = Due.sixteen();
-                longest.link(0, 15, true);
-                for (int one = 15; one > 1; one--) {
-                    longest.link(one, one - 1, true);
-                }
-                SAYS.due("lamp(0, 7), by fifteen links", longest.lamp(0, 7), 65535);
-                SAYS.due("lamp(1, 7), by fifteen links", longest.lamp(1, 7), 65535);
-            });
+        SAYS.holds(15, PIECE, () -> {
+            BlinkMesh x = Due.mesh("1,2,3,4,5,6;ab,bc,cd,ef");
+            SAYS.due("lamp(0, 7), by three links", x.lamp(0, 7), 15);
+            SAYS.due("lamp(3, 7), by three links", x.lamp(3, 7), 15);
+            SAYS.due("lamp(4, 7)", x.lamp(4, 7), 48);
+            x.turn(1, false);
+            SAYS.due("lamp(0, 7), past one that is out", x.lamp(0, 7), 1);
+            SAYS.due("lamp(2, 7), past one that is out", x.lamp(2, 7), 12);
+            x.link(0, 3, true);
+            SAYS.due("lamp(2, 7), by another way", x.lamp(2, 7), 13);
+            BlinkMesh longest = Due.sixteen();
+            longest.link(0, 15, true);
+            for (int one = 15; one > 1; one--) {
+                longest.link(one, one - 1, true);
+            }
+            SAYS.due("lamp(0, 7), by fifteen links", longest.lamp(0, 7), 65535);
+            SAYS.due("lamp(1, 7), by fifteen links", longest.lamp(1, 7), 65535);
+        });
     }
 
     private static void lampAgrees() {
@@ -282,26 +302,25 @@ public final class ToldBoundsTest {
     }
 
     private static void apartDistance() {
-        SAYS.holds(16, "The distance of two phases is their difference, or what is left of 100 times the period beside it, if "
-            + "that is less.", () -> {
-                BlinkMesh x = Due.mesh("0,49*99,49,49*101,99*99");
-                x.turn(0, false);
-                x.pass(1);
-                int[] due = {0, 4999, 5000, 4999, 1};
-                for (int lamp = 0; lamp < due.length; lamp++) {
-                    SAYS.due("apart(0, " + lamp + ")", x.apart(0, lamp), due[lamp]);
-                    SAYS.due("apart(" + lamp + ", 0)", x.apart(lamp, 0), due[lamp]);
-                }
-                x.set(0, 200);
-                SAYS.due("apart(0, 4) in the period 200", x.apart(0, 4), 9999);
-                SAYS.due("apart(0, 3) in the period 200", x.apart(0, 3), 5001);
-                BlinkMesh least = Due.mesh("0,4,5,6,9");
-                least.set(0, 10);
-                int[] leastDue = {0, 400, 500, 400, 100};
-                for (int lamp = 0; lamp < leastDue.length; lamp++) {
-                    SAYS.due("apart(0, " + lamp + ") in the period 10", least.apart(0, lamp), leastDue[lamp]);
-                }
-            });
+        SAYS.holds(16, DISTANCE, () -> {
+            BlinkMesh x = Due.mesh("0,49*99,49,49*101,99*99");
+            x.turn(0, false);
+            x.pass(1);
+            int[] due = {0, 4999, 5000, 4999, 1};
+            for (int lamp = 0; lamp < due.length; lamp++) {
+                SAYS.due("apart(0, " + lamp + ")", x.apart(0, lamp), due[lamp]);
+                SAYS.due("apart(" + lamp + ", 0)", x.apart(lamp, 0), due[lamp]);
+            }
+            x.set(0, 200);
+            SAYS.due("apart(0, 4) in the period 200", x.apart(0, 4), 9999);
+            SAYS.due("apart(0, 3) in the period 200", x.apart(0, 3), 5001);
+            BlinkMesh least = Due.mesh("0,4,5,6,9");
+            least.set(0, 10);
+            int[] leastDue = {0, 400, 500, 400, 100};
+            for (int lamp = 0; lamp < leastDue.length; lamp++) {
+                SAYS.due("apart(0, " + lamp + ") in the period 10", least.apart(0, lamp), leastDue[lamp]);
+            }
+        });
         SAYS.holds(16, "Tells the distance of the phases of two lamps, on or out.", () -> {
             BlinkMesh x = Due.mesh("3,10,20");
             x.turn(0, false);
@@ -369,6 +388,14 @@ public final class ToldBoundsTest {
         SAYS.holds(17, "Lamps blink together if they blink in the same tick, in whatever round.", () -> {
             SAYS.due("next(1), three rounds", Due.mesh("99,95,95,20;ab,bc").next(1), 7);
             SAYS.due("next(1), without links", Due.mesh("99,99,98").next(1), 3);
+        });
+        SAYS.holds(17, "All lamps that are on and whose phase is 100 times the period, or more, blink.", () -> {
+            SAYS.due("next(0), just full in one tick", Due.mesh("99").next(0), 1);
+            SAYS.due("next(0), a hundredth less in one tick", Due.mesh("99*99").next(0), 2);
+            SAYS.due("next(0), just full in two", Due.mesh("98").next(0), 2);
+            SAYS.due("next(0), a hundredth less in one and much more in two", Due.mesh("98*150").next(0), 2);
+            SAYS.due("next(0), of the greatest phase at the least rate", Due.mesh("199*50").next(0), 1);
+            SAYS.due("next(1), one of two just full", Due.mesh("99*99,99").next(1), 2);
         });
     }
 
@@ -443,6 +470,21 @@ public final class ToldBoundsTest {
             SAYS.due("reason(), others are out", x.reason(), 0);
             SAYS.due("reason(), sixteen pieces", Due.sixteen().reason(), 2);
         });
+        SAYS.holds(19, PIECE, () -> {
+            BlinkMesh ring = Due.mesh("5,6,7,8;ab,bc,cd,da");
+            ring.turn(0, false);
+            SAYS.due("reason(), a ring without one", ring.reason(), 0);
+            ring.turn(2, false);
+            SAYS.due("reason(), a ring without two", ring.reason(), 2);
+            BlinkMesh chain = Due.sixteen();
+            chain.link(0, 15, true);
+            for (int one = 15; one > 1; one--) {
+                chain.link(one, one - 1, true);
+            }
+            SAYS.due("reason(), sixteen in a chain", chain.reason(), 0);
+            chain.link(1, 2, false);
+            SAYS.due("reason(), the last of them apart", chain.reason(), 2);
+        });
         SAYS.holds(19, "3 lamps that are on have unlike rates", () -> {
             BlinkMesh x = Due.mesh("5,6,7*101;ab,bc");
             SAYS.due("reason()", x.reason(), 3);
@@ -515,6 +557,18 @@ public final class ToldBoundsTest {
             last.tune(14, 5, 100);
             last.tune(15, 8, 100);
             SAYS.due("spread() of the last one of sixteen", last.spread(), 300);
+        });
+        SAYS.holds(20, DISTANCE, () -> {
+            BlinkMesh x = Due.mesh("0,49*99");
+            x.turn(0, false);
+            x.pass(1);
+            x.turn(0, true);
+            SAYS.due("spread(), a hundredth less than half", x.spread(), 4999);
+            SAYS.due("spread(), half", Due.mesh("0,50").spread(), 5000);
+            SAYS.due("spread(), the greatest phase and the least", Due.mesh("0,199").spread(), 1);
+            BlinkMesh longer = Due.mesh("0,199");
+            longer.set(0, 200);
+            SAYS.due("spread(), so in the period 200", longer.spread(), 9999);
         });
         SAYS.holds(20, NOTHING, () -> Whole.isLeft(SAYS, () -> out(Whole.calm()), "spread()", x -> x.spread(), NONE));
         SAYS.holds(20, ACT, () -> Whole.isOnlyTold(SAYS, Whole::busy, "spread()", x -> x.spread()));
